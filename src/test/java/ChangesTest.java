@@ -186,6 +186,8 @@ public final class ChangesTest {
         CHECK.due("position(0, 1)", x.position(0, 1), 6);
         CHECK.due("undo()", x.undo(), 2);
         CHECK.due("insert upon one label", x.insert(1, 2, 3, 1), 1);
+        CHECK.due("labelAt the other one behind that", x.labelAt(6, 1), 64 * 2 + 7);
+        CHECK.due("why upon it by its own place", x.why(0, 1, 6), 0);
     }
 
     private static void labelsWithoutPlaces() {

@@ -18,6 +18,9 @@ public final class LabelsTest {
         dodgesInOrder();
         dodgesOneAlone();
         dodgesOfTheFirstCell();
+        dodgesToTheFirstCell();
+        dodgesBesideOthers();
+        dodgesOnlyBesideTheNewOne();
         labelAll();
         stuck();
         CHECK.end();
@@ -81,6 +84,8 @@ public final class LabelsTest {
         x.label(0, 0, 3);
         CHECK.due("why upon a label", x.why(0, 1, 5), -7);
         CHECK.due("free beside a label", x.free(0, 1), 128);
+        x = Check.of("board 12 8 turn 2;line a size 2 stops 2 at 5 3 at 1 3;");
+        CHECK.due("free to the right, and not on its line", x.free(0, 0), 253);
         x = Check.of("board 12 8 turn 2;line a size 10 stops 3 at 1 3 at 9 3;");
         CHECK.due("why off the board, on a line too", x.why(0, 1, 0), -5);
         CHECK.due("why at the edge: columns 2 to 11", x.why(0, 0, 2), 0);
@@ -237,6 +242,48 @@ public final class LabelsTest {
         CHECK.due("labelAt(1, 1)", x.labelAt(1, 1), 0);
     }
 
+    /** (1, 0) has (0, 0) alone, where the label of (0, 1) lies. */
+    private static void dodgesToTheFirstCell() {
+        LineDiagram x = Check.of("board 9 5 turn 2;line a size 1 stops 2 at 1 0 at 5 0;line b size 1 stops 2 at 0 1 at 4 1;");
+        CHECK.due("why", x.why(0, 0, 1), 0);
+        CHECK.due("free", x.free(0, 0), 2);
+        CHECK.due("label", x.label(1, 0, 6), 1);
+        CHECK.due("labelAt(0, 0)", x.labelAt(0, 0), 64);
+        CHECK.due("dodge", x.dodge(0, 0), 1);
+        CHECK.due("labelAt(0, 0)", x.labelAt(0, 0), 1);
+        CHECK.due("position(1, 0)", x.position(1, 0), 3);
+    }
+
+    /** (0, 0) has (1, 0) alone, where the label of (1, 1) lies, which can go to (2, 1). */
+    private static void dodgesBesideOthers() {
+        String lines = "line c size 1 stops 2 at 1 1 at 1 4;";
+        LineDiagram x = Check.of("board 9 5 turn 2;line a size 1 stops 2 at 0 0 at 0 4;" + lines + "line d size 1 stops 2 at 3 1 at 3 4;");
+        CHECK.due("label", x.label(1, 0, 6), 1);
+        CHECK.due("label right of it", x.label(2, 0, 4), 1);
+        CHECK.due("dodge that only touches the second one", x.dodge(0, 0), 0);
+        CHECK.due("position(1, 0)", x.position(1, 0), 0);
+        CHECK.due("position(2, 0)", x.position(2, 0), 4);
+        // a label of 2 would lie on (2, 0) too, a line
+        x = Check.of("board 9 5 turn 2;line a size 2 stops 2 at 0 0 at 0 4;" + lines + "line d size 1 stops 2 at 2 0 at 5 0;");
+        CHECK.due("label", x.label(1, 0, 6), 1);
+        CHECK.due("dodge upon a label and a line", x.dodge(0, 0), -2);
+        CHECK.due("position(1, 0)", x.position(1, 0), 6);
+    }
+
+    /** The other label has no POSITION but one upon the new label. */
+    private static void dodgesOnlyBesideTheNewOne() {
+        LineDiagram x = Check.of("board 9 5 turn 2;line a size 1 stops 2 at 0 0 at 0 4;line b size 1 stops 2 at 1 0 at 5 0;"
+            + "line c size 1 stops 2 at 2 1 at 5 1;");
+        CHECK.due("label", x.label(1, 0, 7), 1);
+        CHECK.due("dodge of the neighbour", x.dodge(0, 0), -2);
+        CHECK.due("position(1, 0)", x.position(1, 0), 7);
+        x = Check.of("board 9 5 turn 2;line a size 1 stops 2 at 3 0 at 7 0;line b size 1 stops 2 at 1 0 at 2 0;"
+            + "line c size 1 stops 2 at 3 1 at 7 1;line d size 1 stops 2 at 0 0 at 0 3;line e size 1 stops 2 at 1 1 at 1 3;");
+        CHECK.due("label", x.label(1, 0, 3), 1);
+        CHECK.due("dodge of the next but one", x.dodge(0, 0), -2);
+        CHECK.due("position(1, 0)", x.position(1, 0), 3);
+    }
+
     private static void labelAll() {
         LineDiagram x = Check.of("board 12 8 turn 2;line a size 2 stops 2 at 1 3 at 1 6;line b size 2 stops 2 at 4 3 at 4 6;");
         CHECK.due("couldLabel", x.couldLabel(), 4);
@@ -258,6 +305,9 @@ public final class LabelsTest {
         CHECK.due("position(1, 0)", x.position(1, 0), 1);
         CHECK.due("position(0, 0)", x.position(0, 0), 2);
         CHECK.due("labelAll of a new object", new LineDiagram().labelAll(), 0);
+        x = Check.of("board 12 8 turn 2;line a size 2 stops 2 at 0 0 at 0 6;");
+        CHECK.due("labelAll with a place on the first cell", x.labelAll(), 2);
+        CHECK.due("labelAt(1, 0)", x.labelAt(1, 0), 0);
     }
 
     private static void stuck() {

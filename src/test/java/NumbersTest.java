@@ -207,6 +207,8 @@ public final class NumbersTest {
         CHECK.due("nearest(8, 9) of two alike", x.nearest(8, 9), 64 * 11 + 5);
         CHECK.due("nearest(19, 19)", x.nearest(19, 19), 64 * 11 + 11);
         CHECK.due("nearest(0, 9): 5 columns and 4 rows, or 5 and 2", x.nearest(0, 9), 64 * 5 + 5);
+        x = Check.of("board 9 9 turn 2;line a size 1 stops 2 at 0 0 at 8 8;");
+        CHECK.due("nearest(4, 4) of the first and the last cell", x.nearest(4, 4), 0);
         x = Check.of("board 40 40 turn 2;line a size 1 stops 2 at 39 39 at 39 38;");
         CHECK.due("nearest(0, 0) over the whole board", x.nearest(0, 0), 64 * 38 + 39);
         x = Check.of("board 40 40 turn 2;line a size 1 stops 2 at 39 39 at 38 39;");

@@ -139,6 +139,8 @@ public final class SetupTest {
         bad(HEAD + "line a ^stops 2 at 1 1 at 5 1;");
         bad(HEAD + "line a size ^0 stops 2 at 1 1 at 5 1;");
         bad(HEAD + "line a size ^11 stops 2 at 1 1 at 5 1;");
+        bad(HEAD + "line a size ^at 1 1 at 5 1;");
+        bad(HEAD + "line a size 1 stops ^at 1 1 at 5 1;");
         bad(HEAD + "line a size 1 ^at 1 1 at 5 1;");
         bad(HEAD + "line a size 1 stops ^1 at 1 1 at 5 1;");
         bad(HEAD + "line a size 1 stops ^21 at 1 1 at 5 1;");

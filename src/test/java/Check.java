@@ -1,6 +1,13 @@
+import java.lang.reflect.InvocationTargetException;
+import java.lang.reflect.Method;
+import java.util.Arrays;
+import java.util.Comparator;
+
 /** Counts the answers of one test and prints those that are not as due. */
 final class Check {
     private final String test;
+    /** The sentence that is being tested, ahead of each wrong answer. */
+    private String about = "";
     private int right;
     private int wrong;
 
@@ -13,16 +20,60 @@ final class Check {
             right++;
         } else {
             wrong++;
-            System.out.println(test + ": " + call + " answered " + got + ", due is " + want);
+            System.out.println(test + ": " + about + call + " answered " + got + ", due is " + want);
         }
     }
 
     void due(String call, String got, String want) {
         boolean same = got.equals(want);
         if (!same) {
-            System.out.println(test + ": " + call + " answered\n" + got + "\ndue is\n" + want);
+            System.out.println(test + ": " + about + call + " answered\n" + got + "\ndue is\n" + want);
         }
         due(call, same ? 1 : 0, 1);
+    }
+
+    /** Runs each method that says which words of the document it tests; one that asks nothing is wrong. */
+    void eachSentence(Class<?> tests) throws IllegalAccessException {
+        Method[] methods = tests.getDeclaredMethods();
+        Arrays.sort(methods, Comparator.comparing(Method::getName));
+        for (Method method : methods) {
+            Says says = method.getAnnotation(Says.class);
+            if (says != null) {
+                about = says.in() + ", \"" + says.words() + "\" (" + method.getName() + "): ";
+                int before = right + wrong;
+                run(method);
+                due("a call", right + wrong > before ? 1 : 0, 1);
+            }
+        }
+        about = "";
+    }
+
+    private void run(Method method) throws IllegalAccessException {
+        method.setAccessible(true);
+        try {
+            method.invoke(null);
+        } catch (InvocationTargetException thrown) {
+            wrong++;
+            System.out.println(test + ": " + about + "threw " + thrown.getCause());
+        }
+    }
+
+    /** A setup text that loads as so many lines. */
+    void loads(String text, int lines) {
+        LineDiagram x = new LineDiagram();
+        write(x, text);
+        due("load(" + text + ")", x.load(), lines);
+        due("its errorPosition", x.errorPosition(), -2);
+    }
+
+    /** A setup text that does not load, with a ^ ahead of the first token that cannot stand. */
+    void refuses(String marked) {
+        int place = marked.indexOf('^');
+        String text = marked.substring(0, place) + marked.substring(place + 1);
+        LineDiagram x = new LineDiagram();
+        write(x, text);
+        due("load(" + text + ")", x.load(), -1);
+        due("errorPosition of " + text, x.errorPosition(), place);
     }
 
     /** Ends the program with exit code 1 if an answer was wrong. */
@@ -63,7 +114,8 @@ final class Check {
 
     static String setup(LineDiagram x) {
         StringBuilder all = new StringBuilder();
-        for (int i = 0; i < x.setupLength(); i++) {
+        int length = x.setupLength();
+        for (int i = 0; i < length; i++) {
             all.append((char) x.setupByte(i));
         }
         return all.toString();
@@ -71,7 +123,8 @@ final class Check {
 
     static String picture(LineDiagram x) {
         StringBuilder all = new StringBuilder();
-        for (int i = 0; i < x.pictureLength(); i++) {
+        int length = x.pictureLength();
+        for (int i = 0; i < length; i++) {
             all.append((char) x.pictureByte(i));
         }
         return all.toString();

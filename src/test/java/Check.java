@@ -39,7 +39,7 @@ final class Check {
         for (Method method : methods) {
             Says says = method.getAnnotation(Says.class);
             if (says != null) {
-                about = says.in() + ", \"" + says.words() + "\" (" + method.getName() + "): ";
+                about = says.in() + ", \"" + says.words().replace('\n', ' ') + "\" (" + method.getName() + "): ";
                 int before = right + wrong;
                 run(method);
                 due("a call", right + wrong > before ? 1 : 0, 1);

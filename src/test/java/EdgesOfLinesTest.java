@@ -38,6 +38,11 @@ public final class EdgesOfLinesTest {
         due("label", x.label(0, 0, 2), 3);
         due("value(6) with two labels", x.value(6), 2);
         due("value(8) with two labels", x.value(8), 6);
+        StringBuilder eight = new StringBuilder(HEAD);
+        for (int i = 0; i < 8; i++) {
+            eight.append("line ").append((char) ('a' + i)).append(" size 1 stops ").append(i + 2).append(" at 0 ").append(i).append(" at 11 ").append(i).append(";");
+        }
+        due("value(4) of eight lines", Check.of(eight.toString()).value(4), 2 + 3 + 4 + 5 + 6 + 7 + 8 + 9);
         x = Check.of("board 4 4 turn 2;");
         for (int i = 3; i < 12; i++) {
             due("value(" + i + ") without lines", x.value(i), 0);
@@ -109,6 +114,11 @@ public final class EdgesOfLinesTest {
         due("bends", x.line(0, 4), 2);
         due("greatest turn", x.line(0, 5), 3);
         due("sum of the turns", x.line(0, 6), 5);
+        int[] loop = {3, 2, 6}, bent = {1, 1, 1};
+        for (int what = 4; what < 7; what++) {
+            due("line(0, " + what + ") of a loop", Check.of(LOOP).line(0, what), loop[what - 4]);
+            due("line(0, " + what + ") of one bend", Check.of(BENT).line(0, what), bent[what - 4]);
+        }
         for (int what = 4; what < 7; what++) {
             due("line(1, " + what + ") of two points", x.line(1, what), 0);
         }
@@ -241,6 +251,11 @@ public final class EdgesOfLinesTest {
         for (int i = 0; i < 5; i++) {
             due("station(0, " + i + ", 3) at the bends", x.station(0, i, 3), ways[i]);
         }
+        // seven steps, four before the bend
+        x = Check.of(BENT.replace("stops 3", "stops 8"));
+        for (int i = 0; i < 8; i++) {
+            due("station(0, " + i + ", 3) of eight", x.station(0, i, 3), i < 5 ? 0 : 1);
+        }
         // the first station has the way behind it, the next one, a step on, that between both
         x = Check.of("board 9 9 turn 3;line a size 1 stops 4 at 4 4 at 3 3 at 4 3 at 3 4;");
         int[] each = {5, 5, 0, 3};
@@ -291,6 +306,10 @@ public final class EdgesOfLinesTest {
         due("the cells of a label", x.at(8, 0) + x.at(9, 0), 2);
         due("a cell behind the label", x.at(10, 0), 0);
         due("the last cell", x.at(11, 7), 0);
+        x = Check.of(HEAD + "line a size 2 stops 2 at 0 0 at 0 7;");
+        x.label(0, 0, 0);
+        due("a cell of the label of the first cell's place", x.at(2, 0), 1);
+        due("value(8)", x.value(8), 2);
     }
 
     @Says(in = "Promise 24", words = "INVALID for an invalid argument")
@@ -599,6 +618,9 @@ public final class EdgesOfLinesTest {
         due("changes from a's end to c's end", x.changes(0, 0, 2, 2), 2);
         due("changes from a's end to c's station of b", x.changes(0, 0, 2, 1), 1);
         due("changes back", x.changes(2, 1, 0, 0), 1);
+        due("changes from c's end to c's station of b", x.changes(2, 2, 2, 1), 0);
+        due("changes from c's end to b's station of c", x.changes(2, 2, 1, 3), 0);
+        due("changes from b's to b's station of a", x.changes(1, 1, 1, 0), 0);
         due("the most changes", chain().changes(0, 0, 7, 18), 7);
         due("the most changes back", chain().changes(7, 18, 0, 0), 7);
         due("changes from an end that two lines have", chain().changes(0, 19, 7, 18), 6);

@@ -476,6 +476,8 @@ public final class EdgesOfOperationsTest {
         // columns 6 to 8 of row 2 are taken by a label that could dodge, those of row 4 are free
         due("free(0, 1)", x.free(0, 1), 1 << 5 | 1 << 6 | 1 << 7);
         due("dodge(0, 1)", x.dodge(0, 1), 5);
+        due("its position", x.position(0, 1), 5);
+        due("labelAt(6, 4)", x.labelAt(6, 4), 64 * 3 + 9);
         due("position of the other one", x.position(0, 0), 2);
         x = Check.of(HEAD + "line a size 2 stops 2 at 5 3 at 1 3;");
         due("dodge into POSITION 0", x.dodge(0, 0), 0);
@@ -483,6 +485,7 @@ public final class EdgesOfOperationsTest {
         x = Check.of(HEAD + "line a size 1 stops 2 at 11 6 at 9 4;line b size 1 stops 2 at 10 6 at 10 7;line c size 1 stops 2 at 11 5 at 10 5;");
         due("free(0, 0)", x.free(0, 0), 128);
         due("dodge into POSITION 7", x.dodge(0, 0), 7);
+        due("labelAt(11, 7)", x.labelAt(11, 7), 64 * 6 + 11);
     }
 
     @Says(in = "Promise 14", words = "those in which it would lie, on the board and on no line, upon labels of just one other place")
@@ -492,6 +495,14 @@ public final class EdgesOfOperationsTest {
         due("label", x.label(1, 0, 1), 2);
         due("dodge upon both cells of one label", x.dodge(0, 0), 0);
         due("position of the other one", x.position(1, 0), 0);
+        // upon one label, and a cell with nothing ahead of it or behind it
+        for (int other = 1; other <= 2; other++) {
+            x = Check.of("board 8 4 turn 2;line a size 2 stops 2 at 0 0 at 0 3;line c size 1 stops 2 at " + other + " 1 at " + (3 - other) + " 1;");
+            due("label at (" + other + ", 0)", x.label(1, 0, 6), 1);
+            due("dodge upon a label and a free cell", x.dodge(0, 0), 0);
+            due("labelAt(1, 0)", x.labelAt(1, 0), 0);
+            due("labelAt(2, 0)", x.labelAt(2, 0), 0);
+        }
         // upon labels of two places in POSITION 0, of one in POSITION 2
         x = Check.of(HEAD + "line a size 2 stops 2 at 0 2 at 0 6;line c size 1 stops 2 at 1 3 at 5 3;line d size 1 stops 2 at 3 2 at 3 0;");
         due("label at (1, 2)", x.label(1, 0, 6), 1);
@@ -508,6 +519,12 @@ public final class EdgesOfOperationsTest {
         x.label(2, 0, 4);
         due("dodge upon two places", x.dodge(0, 0), -2);
         due("labels", x.value(6), 2);
+        // one of these two is that of the first cell
+        x = Check.of("board 4 5 turn 2;line q size 1 stops 2 at 0 0 at 3 0;line r size 1 stops 2 at 0 2 at 0 4;line p size 2 stops 2 at 2 1 at 2 4;");
+        due("label of (0, 0)", x.label(0, 0, 3), 1);
+        due("label of (0, 2)", x.label(1, 0, 6), 1);
+        due("why of (2, 1)", x.why(2, 0, 1), -7);
+        due("dodge upon two places, one on the first cell", x.dodge(2, 0), -2);
         // upon a label and a line
         x = Check.of("board 9 5 turn 2;line a size 2 stops 2 at 0 0 at 0 4;line c size 1 stops 2 at 1 1 at 1 4;line d size 1 stops 2 at 2 0 at 5 0;");
         x.label(1, 0, 6);
@@ -542,6 +559,11 @@ public final class EdgesOfOperationsTest {
         due("dodge where both have one cell alone", x.dodge(0, 0), -2);
         due("position of the other one", x.position(1, 0), 3);
         due("labels", x.value(6), 1);
+        // the same of two neighbours: (1, 1) of (0, 0) and (1, 0)
+        x = Check.of("board 9 5 turn 2;line a size 1 stops 2 at 0 0 at 0 4;line b size 1 stops 2 at 1 0 at 5 0;line c size 1 stops 2 at 2 1 at 5 1;");
+        due("label", x.label(1, 0, 7), 1);
+        due("dodge of the neighbour", x.dodge(0, 0), -2);
+        due("position of the other one", x.position(1, 0), 7);
     }
 
     @Says(in = "Promise 14", words = "(what it leaves is free then)")
@@ -573,6 +595,22 @@ public final class EdgesOfOperationsTest {
         due("position of the other one", x.position(1, 0), 3);
     }
 
+    @Says(in = "Promise 14", words = "lets another label dodge it, if need be")
+    private static void dodgeOfTheFirstCell() {
+        // the label of the place (0, 0) goes from (1, 0) to (1, 1)
+        LineDiagram x = Check.of("board 8 4 turn 2;line a size 2 stops 2 at 3 0 at 3 3;line b size 1 stops 2 at 0 0 at 0 3;"
+            + "line c size 1 stops 2 at 4 0 at 4 3;line d size 1 stops 2 at 2 1 at 2 3;");
+        due("label of (0, 0)", x.label(1, 0, 0), 1);
+        due("dodge of (3, 0)", x.dodge(0, 0), 1);
+        due("position of (0, 0)", x.position(1, 0), 3);
+        // the new label comes to (0, 0), where that of (0, 1) lies
+        x = Check.of("board 9 5 turn 2;line a size 1 stops 2 at 1 0 at 5 0;line b size 1 stops 2 at 0 1 at 4 1;");
+        due("label of (0, 1)", x.label(1, 0, 6), 1);
+        due("dodge of (1, 0)", x.dodge(0, 0), 1);
+        due("labelAt(0, 0)", x.labelAt(0, 0), 1);
+        due("position of (0, 1)", x.position(1, 0), 3);
+    }
+
     @Says(in = "Promise 14", words = "Returns the POSITION in which the label comes")
     private static void answersOfDodge() {
         LineDiagram x = Check.of(TIGHT);
@@ -585,6 +623,12 @@ public final class EdgesOfOperationsTest {
         due("label", x.label(1, 0, 0), 1);
         due("dodge", x.dodge(0, 0), 1);
         due("position", x.position(0, 0), 1);
+        due("position of the other one", x.position(1, 0), 1);
+        // (11, 6) has (11, 7), below, alone, where the label of (10, 7) lies, which can go to (9, 7)
+        x = Check.of(HEAD + "line a size 1 stops 2 at 11 6 at 9 4;line b size 1 stops 2 at 10 7 at 10 6;line c size 1 stops 2 at 11 5 at 10 5;");
+        due("label", x.label(1, 0, 0), 1);
+        due("dodge", x.dodge(0, 0), 7);
+        due("position", x.position(0, 0), 7);
         due("position of the other one", x.position(1, 0), 1);
     }
 
@@ -621,6 +665,15 @@ public final class EdgesOfOperationsTest {
         CHECK.due("picture", Check.picture(x), picture);
         due("labelAt(1, 0)", x.labelAt(1, 0), 2);
         due("undo()", x.undo(), 0);
+        // what was tried in vain in columns 1 to 3 leaves nothing behind
+        x = Check.of("board 9 5 turn 2;line a size 3 stops 2 at 0 0 at 0 4;line b size 1 stops 2 at 2 1 at 6 1;"
+            + "line c size 1 stops 2 at 1 1 at 1 4;line d size 1 stops 2 at 5 2 at 2 2;");
+        due("label at (3, 0)", x.label(1, 0, 2), 1);
+        picture = Check.picture(x);
+        due("dodge of three columns", x.dodge(0, 0), -2);
+        CHECK.due("picture", Check.picture(x), picture);
+        due("labelAt(1, 0)", x.labelAt(1, 0), -2);
+        due("labelAt(3, 0)", x.labelAt(3, 0), 66);
     }
 
     // ---- promise 15

@@ -154,6 +154,7 @@ public final class EdgesOfSetupTest {
         CHECK.refuses(HEAD + "line a ^b size 1 stops 2 at 1 1 at 5 1;");
         CHECK.refuses(HEAD + "line a ^stops 2 size 1 at 1 1 at 5 1;");
         CHECK.refuses(HEAD + "line a size ^stops 2 at 1 1 at 5 1;");
+        CHECK.refuses(HEAD + "line a size ^at 1 1 at 5 1;");
         CHECK.refuses(HEAD + "line a size 1 ^at 1 1 at 5 1;");
         CHECK.refuses(HEAD + "line a size 1 stops ^at 1 1 at 5 1;");
         CHECK.refuses(HEAD + "line a size 1 stops 2^;");
@@ -186,6 +187,7 @@ public final class EdgesOfSetupTest {
     private static void noLabelsThen() {
         LineDiagram x = Check.of(HEAD + LINE);
         due("labelAll()", x.labelAll(), 2);
+        due("couldLabel()", x.couldLabel(), 0);
         Check.write(x, HEAD + LINE);
         due("load()", x.load(), 1);
         due("labels", x.value(6), 0);

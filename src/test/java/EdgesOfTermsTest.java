@@ -489,6 +489,9 @@ public final class EdgesOfTermsTest {
         due("crossing(1)", x.crossing(1), 64 * 2 + 6);
         due("crossing(2)", x.crossing(2), -2);
         due("at an end", x.at(4, 2), 3);
+        x = Check.of("board 4 4 turn 2;line a size 1 stops 2 at 0 2 at 0 0 at 2 0;line b size 1 stops 2 at 0 3 at 0 0 at 3 0;");
+        due("crossings around the first cell", x.value(9), 3);
+        due("crossing(0)", x.crossing(0), 0);
     }
 
     @Says(in = "Terms 4", words = "if one has a step from (x, y) to (x + 1, y + 1), or back, and the other one a step from (x + 1, y) to (x, y + 1), or back")
@@ -503,6 +506,10 @@ public final class EdgesOfTermsTest {
                 due("crossings between cells of " + other + " and " + one, x.value(10), 1);
             }
         }
+        String first = "board 4 4 turn 2;line a size 1 stops 2 at 0 0 at 1 1;line b size 1 stops 2 at 1 0 at 0 1;";
+        due("crossings in the first corner", Check.of(first).value(10), 1);
+        String last = "board 40 40 turn 2;line a size 1 stops 2 at 38 38 at 39 39;line b size 1 stops 2 at 39 38 at 38 39;";
+        due("crossings in the last corner", Check.of(last).value(10), 1);
         due("crossings of a line with itself", Check.of("board 6 6 turn 3;line a size 1 stops 2 at 1 1 at 4 4 at 4 1 at 1 4;").value(10), 0);
         due("crossings of level and upright steps", Check.of("board 6 6 turn 3;line a size 1 stops 2 at 1 1 at 2 1;"
             + "line b size 1 stops 2 at 1 2 at 2 2;line c size 1 stops 2 at 1 1 at 1 2;line d size 1 stops 2 at 2 1 at 2 2;").value(10), 0);
@@ -521,6 +528,9 @@ public final class EdgesOfTermsTest {
                 due("both(0, 1, 4)", x.both(0, 1, 4), 3);
             }
         }
+        String corner = "board 4 4 turn 2;line a size 1 stops 2 at 0 0 at 1 %d;line b size 1 stops 2 at 1 %d at 0 0;";
+        due("steps side by side from the first cell", Check.of(String.format(corner, 0, 0)).value(11), 1);
+        due("steps side by side that slant from the first cell", Check.of(String.format(corner, 1, 1)).value(11), 1);
         // the same cells, but never the same step
         LineDiagram x = Check.of("board 6 6 turn 3;line a size 1 stops 2 at 1 1 at 2 1;line b size 1 stops 2 at 2 1 at 3 1;");
         due("steps that only touch", x.value(11), 0);
@@ -640,6 +650,13 @@ public final class EdgesOfTermsTest {
             CHECK.due("picture behind that", Check.picture(x), picture);
             CHECK.due("setup behind that", Check.setup(x), setup);
         }
+        LineDiagram x = Check.of(BENT);
+        due("labelAll()", x.labelAll(), 3);
+        due("labelAll() that brings none", x.labelAll(), 0);
+        due("undo() of that", x.undo(), 1);
+        due("labels", x.value(6), 3);
+        due("undo() of the first one", x.undo(), 0);
+        due("labels", x.value(6), 0);
     }
 
     @Says(in = "Terms 6", words = "that return 0 or more")

@@ -148,7 +148,10 @@ public final class EdgesOfTextsTest {
             due("the byte behind row " + y, x.pictureByte(13 * y + 12), 10);
         }
         due("pictureLength()", x.pictureLength(), 104);
-        // the digits of all lines, in row 3
+        x = Check.of("board 4 4 turn 2;line a size 2 stops 2 at 0 0 at 0 3;");
+        x.labelAll();
+        CHECK.due("picture with labels of the first and of the last row", Check.picture(x), "o==.\n" + "0...\n" + "0...\n" + "o===\n");
+        // the digits of all lines
         x = Check.of(nine(8));
         for (int i = 0; i < 8; i++) {
             due("a cell of line " + i, x.pictureByte(13 * i + 2), '0' + i);

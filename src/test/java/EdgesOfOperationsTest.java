@@ -488,6 +488,21 @@ public final class EdgesOfOperationsTest {
         due("labelAt(11, 7)", x.labelAt(11, 7), 64 * 6 + 11);
     }
 
+    @Says(in = "Promise 14", words = "Otherwise the POSITIONS are tried in their order")
+    private static void dodgeInOrder() {
+        // (0, 0) has (1, 0) and (1, 1), each with a label that can go; the lines in both orders
+        String a = "line a size 1 stops 2 at 0 0 at 0 5;", b = "line b size 1 stops 2 at 2 0 at 5 0;", c = "line c size 1 stops 2 at 2 2 at 5 2;";
+        for (int first = 1; first <= 2; first++) {
+            LineDiagram x = Check.of("board 8 6 turn 2;" + a + (first == 1 ? b + c : c + b));
+            due("label at (1, 0)", x.label(first, 0, 1), 1);
+            due("label at (1, 1)", x.label(3 - first, 0, 4), 1);
+            due("free", x.free(0, 0), 0);
+            due("dodge", x.dodge(0, 0), 0);
+            due("position of what goes", x.position(first, 0), 3);
+            due("position of what stays", x.position(3 - first, 0), 4);
+        }
+    }
+
     @Says(in = "Promise 14", words = "those in which it would lie, on the board and on no line, upon labels of just one other place")
     private static void dodgeUponOneOtherPlace() {
         // a label of 2 upon both cells of one label

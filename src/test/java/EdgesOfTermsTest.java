@@ -434,7 +434,8 @@ public final class EdgesOfTermsTest {
     }
 
     /** (10, 0), (10, 1), (1, 2) and (9, 2), whose label of 7 has no room beside the others. */
-    @Says(in = "Terms 3", words = "each gets the first POSITION in which a label of it fits, if there is one")
+    @Says(in = "Terms 3", words = "To label all means: by the rows and then the columns of the places that have no label, "
+        + "each gets the first POSITION in which a label of it fits, if there is one")
     private static void labelAllInOrder() {
         LineDiagram x = Check.of(HEAD + "line a size 6 stops 2 at 1 2 at 9 2;line b size 3 stops 2 at 10 1 at 10 0;");
         due("labelAll()", x.labelAll(), 3);

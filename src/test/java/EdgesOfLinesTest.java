@@ -575,9 +575,29 @@ public final class EdgesOfLinesTest {
         due("rides from 1 to 4 of a loop", x.rides(0, 1, 0, 4), 1);
         due("rides from 0 to 4 of a loop", x.rides(0, 0, 0, 4), 0);
         due("rides from 1 to 3 of a loop", x.rides(0, 1, 0, 3), 2);
+        // (0, 0), (4, 0) and (0, 4) are one ride from one another, and (0, 7) is one on from the last
+        x = Check.of(HEAD + "line a size 1 stops 2 at 0 0 at 4 0;line b size 1 stops 2 at 0 0 at 0 4;line c size 1 stops 2 at 4 0 at 0 4;line d size 1 stops 2 at 0 4 at 0 7;");
+        due("rides by a triangle", x.rides(0, 0, 3, 1), 2);
+        due("rides from its other corner", x.rides(0, 1, 3, 1), 2);
         x = chain();
         due("the longest way", x.rides(0, 0, 7, 18), 7 * 19 + 18);
         due("the longest way back", x.rides(7, 18, 0, 0), 7 * 19 + 18);
+    }
+
+    @Says(in = "Promise 31", words = "Returns the least number of rides")
+    private static void ridesOfFullLines() {
+        StringBuilder full = new StringBuilder("board 40 40 turn 2;");
+        for (int i = 0; i < 8; i++) {
+            full.append("line ").append((char) ('a' + i)).append(" size 1 stops 20 at 0 ").append(4 * i).append(" at 38 ").append(4 * i).append(";");
+        }
+        LineDiagram x = Check.of(full.toString());
+        for (int i = 0; i < 8; i++) {
+            due("rides along line " + i, x.rides(i, 0, i, 19), 19);
+            due("rides back along line " + i, x.rides(i, 19, i, 0), 19);
+            due("rides to the next line", x.rides(i, 19, (i + 1) % 8, 0), -2);
+            due("changes along line " + i, x.changes(i, 0, i, 19), 0);
+            due("changes to the next line", x.changes(i, 19, (i + 1) % 8, 0), -2);
+        }
     }
 
     @Says(in = "Promise 31", words = "a line, perhaps the same")

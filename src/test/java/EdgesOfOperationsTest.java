@@ -518,6 +518,13 @@ public final class EdgesOfOperationsTest {
             due("labelAt(1, 0)", x.labelAt(1, 0), 0);
             due("labelAt(2, 0)", x.labelAt(2, 0), 0);
         }
+        // upon one label, beside another one that only touches the new one
+        x = Check.of("board 9 5 turn 2;line a size 1 stops 2 at 0 0 at 0 4;line c size 1 stops 2 at 1 1 at 1 4;line d size 1 stops 2 at 3 1 at 3 4;");
+        due("label at (1, 0)", x.label(1, 0, 6), 1);
+        due("label at (2, 0)", x.label(2, 0, 4), 1);
+        due("dodge beside a second label", x.dodge(0, 0), 0);
+        due("position of the one that dodges", x.position(1, 0), 0);
+        due("position of the one beside", x.position(2, 0), 4);
         // upon labels of two places in POSITION 0, of one in POSITION 2
         x = Check.of(HEAD + "line a size 2 stops 2 at 0 2 at 0 6;line c size 1 stops 2 at 1 3 at 5 3;line d size 1 stops 2 at 3 2 at 3 0;");
         due("label at (1, 2)", x.label(1, 0, 6), 1);

@@ -74,6 +74,21 @@ public final class EdgesOfSetupTest {
         }
     }
 
+    @Says(in = "Terms 5", words = "is a keyword")
+    private static void keywordsForOneAnother() {
+        String[] keywords = {"board", "turn", "line", "size", "stops", "at"};
+        String text = HEAD + LINE;
+        for (String keyword : keywords) {
+            for (int place = text.indexOf(keyword); place >= 0; place = text.indexOf(keyword, place + 1)) {
+                for (String other : keywords) {
+                    if (!other.equals(keyword)) {
+                        CHECK.refuses(text.substring(0, place) + "^" + other + text.substring(place + keyword.length()));
+                    }
+                }
+            }
+        }
+    }
+
     @Says(in = "Terms 5", words = "any other one of 1 to 6 letters is a NAME")
     private static void lengthsOfNames() {
         CHECK.loads(HEAD + "line z size 1 stops 2 at 1 1 at 5 1;", 1);

@@ -212,6 +212,10 @@ public final class EdgesOfTextsTest {
         for (int i = 0; i < setup.length(); i++) {
             due("setupByte(" + i + ")", x.setupByte(i), setup.charAt(i));
         }
+        for (String name : new String[] {"d", "z", "zz", "zzzzz", "zzzzzz", "zaaaaa"}) {
+            setup = "board 20 12 turn 2;line " + name + " size 1 stops 2 at 1 1 at 5 1;";
+            CHECK.due("setup of a line named " + name, Check.setup(Check.of(setup)), setup);
+        }
         due("setupLength() of a new object", new LineDiagram().setupLength(), 19);
         CHECK.due("setup of a new object", Check.setup(new LineDiagram()), "board 20 12 turn 2;");
     }

@@ -86,16 +86,16 @@ final class Check {
 
     // ---- what many tests need
 
-    /** Puts a text on the tape. */
+    /** Puts a text on the tape: twenty bytes a call; what is too much of the last one is taken off again. */
     static void write(LineDiagram x, String text) {
-        byte[] padded = new byte[(text.length() + 19) / 20 * 20];
+        int[] four = new int[(text.length() + 19) / 20 * 5];
         for (int i = 0; i < text.length(); i++) {
-            padded[i] = (byte) text.charAt(i);
+            four[i / 4] |= text.charAt(i) << 24 - i % 4 * 8;
         }
-        for (int i = 0; i < padded.length; i += 20) {
-            x.append(four(padded, i), four(padded, i + 4), four(padded, i + 8), four(padded, i + 12), four(padded, i + 16));
+        for (int i = 0; i < four.length; i += 5) {
+            x.append(four[i], four[i + 1], four[i + 2], four[i + 3], four[i + 4]);
         }
-        x.truncate(padded.length - text.length());
+        x.truncate(4 * four.length - text.length());
     }
 
     static int four(byte[] bytes, int i) {

@@ -16,9 +16,11 @@ public final class EdgesOfDocumentTest {
     private static final Check CHECK = new Check("EdgesOfDocumentTest");
     private static final Class<?>[] TESTS = {EdgesOfTermsTest.class, EdgesOfSetupTest.class, EdgesOfOperationsTest.class,
         EdgesOfLinesTest.class, EdgesOfLabelsTest.class, EdgesOfTextsTest.class};
+    /** What stands around the terms and the promises and names edges too. */
+    private static final List<String> AROUND = List.of("What it is", "Not promised");
     /** What an edge is told by. */
     private static final Pattern EDGE = Pattern.compile("[A-Z_]{3,}(?= if| for| without|;|,|\\.|\\))|\\d+ to \\d+|\\d+ to the|0 or 1|from 0\\b|up to \\d"
-        + "|at most|never|greater|without|empty|exceed|nothing is|of several|\\bfirst\\b|\\bonce\\b|\\bless\\b|\\bcut\\b|already|latest|too early|out of range|any other|as far as|in place of");
+        + "|at most|never|greater|without|empty|exceed|nothing is|of several|\\bfirst\\b|(?<!at )\\bonce\\b|512|\\bless\\b|\\bcut\\b|already|latest|too early|out of range|any other|as far as|in place of");
 
     public static void main(String[] args) throws Exception {
         Path file = Path.of(args.length > 0 ? args[0] : "../shared/DOC.md");
@@ -40,7 +42,7 @@ public final class EdgesOfDocumentTest {
         CHECK.end();
     }
 
-    /** The text of each section of the terms and of each promise. */
+    /** The text of each section of the terms, of each promise and of what stands around them. */
     private static Map<String, String> sections(String text) {
         Map<String, String> all = new LinkedHashMap<>();
         String in = "";
@@ -52,7 +54,7 @@ public final class EdgesOfDocumentTest {
             } else if (line.equals("## Terms")) {
                 in = "Terms";
             } else if (line.startsWith("## ")) {
-                in = "";
+                in = AROUND.contains(line.substring(3)) ? line.substring(3) : "";
             } else if (in.startsWith("Terms") && term.matches()) {
                 in = "Terms " + term.group(1);
             } else if (!in.isEmpty() && !in.equals("Terms")) {

@@ -778,19 +778,20 @@ public final class EdgesOfOperationsTest {
 
     @Says(in = "Promise 17", words = "Makes everything that operations change as it was kept in a slot; the slot keeps it")
     private static void slotsKeepIt() {
-        LineDiagram x = Check.of(UNDER);
+        String text = "board 10 6 turn 2;line a size 2 stops 2 at 1 2 at 7 2;line b size 1 stops 2 at 0 3 at 0 1;";
+        LineDiagram x = Check.of(text);
         x.labelAll();
         x.keep(0);
         String picture = Check.picture(x);
-        for (int i = 0; i < 3; i++) {
-            x.moveBend(1, 0, 0, 7 - i);
-            x.insert(0, 1, 4, 2);
-            x.reverse(0);
-            x.setStops(0, 4 + i);
-            x.setSize(1, 5 + i);
-            x.unlabel(1, 0);
+        for (int i = 0; i < 2; i++) {
+            due("unlabel", x.unlabel(0, 0) >= 0 ? 1 : 0, 1);
+            due("moveBend", x.moveBend(1, 0, 0, 5 - i) >= 0 ? 1 : 0, 1);
+            due("insert", x.insert(0, 1, 4, 2), 0);
+            due("reverse", x.reverse(0) >= 0 ? 1 : 0, 1);
+            due("setStops", x.setStops(0, 4 + i) >= 0 ? 1 : 0, 1);
+            due("setSize", x.setSize(1, 5 + i) >= 0 ? 1 : 0, 1);
             due("restore(0)", x.restore(0), 4);
-            CHECK.due("setup", Check.setup(x), UNDER);
+            CHECK.due("setup", Check.setup(x), text);
             CHECK.due("picture", Check.picture(x), picture);
         }
     }

@@ -463,16 +463,17 @@ public final class EdgesOfSetupTest {
 
     @Says(in = "Promise 4", words = "On an error everything but the tape and the error position stays")
     private static void everythingStays() {
+        String small = "board 8 4 turn 2;" + LINE + LINE.replace(" a ", " b ");
         // each text fails at its end, when all that it could replace has been read
         for (String text : new String[] {"", "board 9 8 turn 1", HEAD + LINE.replace(" a ", " c ") + "!", eightLines() + ";"}) {
-            LineDiagram x = Check.of(HEAD + LINE + LINE.replace(" a ", " b "));
+            LineDiagram x = Check.of(small);
             x.label(0, 0, 7);
             x.keep(1);
             x.label(0, 1, 7);
             String picture = Check.picture(x);
             Check.write(x, text);
             due("load(" + text + ")", x.load(), -1);
-            CHECK.due("setup", Check.setup(x), HEAD + LINE + LINE.replace(" a ", " b "));
+            CHECK.due("setup", Check.setup(x), small);
             CHECK.due("picture", Check.picture(x), picture);
             due("labels", x.value(6), 2);
             due("restore(0)", x.restore(0), -2);

@@ -1,4 +1,4 @@
-/** The sentences of the terms, sections 1 to 4 and 6, that name an edge: a test for each. */
+/** The sentences of the terms, sections 1 to 4 and 6, and of what stands around them, that name an edge: a test for each. */
 public final class EdgesOfTermsTest {
     private static final Check CHECK = new Check("EdgesOfTermsTest");
     private static final String HEAD = "board 12 8 turn 2;";
@@ -24,6 +24,40 @@ public final class EdgesOfTermsTest {
             all.append("line ").append((char) ('a' + i)).append(" size 1 stops 2 at 1 ").append(i % 8).append(" at 5 ").append(i % 8).append(";");
         }
         return all.toString();
+    }
+
+    // ---- what it is
+
+    /** An object has answered six calls when BENT is loaded, so that the last one here is its 512th. */
+    @Says(in = "What it is", words = "An object is used for at most 512 calls after it has been made")
+    private static void callsOfAnObject() {
+        LineDiagram x = Check.of(BENT);
+        for (int i = 0; i < 504; i++) {
+            due("setSize number " + i, x.setSize(0, 1 + i % 2), 0);
+        }
+        due("the 511th call: undo()", x.undo(), 7);
+        due("the 512th call: SIZE", x.line(0, 2), 1);
+        x = Check.of(BENT);
+        for (int i = 0; i < 101; i++) {
+            due("labelAll number " + i, x.labelAll(), 3);
+            due("keep number " + i, x.keep(i % 2), 3);
+            due("undo of labelAll number " + i, x.undo(), 0);
+            due("restore number " + i, x.restore(i % 2), 3);
+            due("undo of restore number " + i, x.undo(), 0);
+        }
+        due("the 512th call: labels", x.value(6), 0);
+    }
+
+    @Says(in = "Not promised", words = "nothing about an object after its 512th call")
+    private static void callsOfManyTexts() {
+        LineDiagram x = new LineDiagram();
+        for (int i = 0; i < 170; i++) {
+            due("append", x.append(0x626f6172, 0x64203420, 0x34302074, 0x75726e20, 0x303b3b3b), 20);
+            due("truncate", x.truncate(2 + i % 2), 18 - i % 2);
+            due("load", x.load(), i % 2 == 0 ? 0 : -1);
+        }
+        due("the 511th call: errorPosition()", x.errorPosition(), 17);
+        due("the 512th call: HIGH", x.value(1), 40);
     }
 
     // ---- 1. the board and lines

@@ -246,6 +246,7 @@ public final class EdgesOfTextsTest {
         x.undo();
         x.undo();
         CHECK.due("setup behind undo", Check.setup(x), STAR);
+        x = Check.of(STAR);
         Check.write(x, "board 5 5 turn 1");
         CHECK.due("setup with a text on the tape", Check.setup(x), STAR);
     }

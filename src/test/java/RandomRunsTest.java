@@ -7,6 +7,11 @@ import java.util.List;
  */
 public final class RandomRunsTest {
     private static final Check CHECK = new Check("RandomRunsTest");
+    static final int RUNS = 1200;
+    /** What is answered by an object after so many calls is free. */
+    static final int MOST_CALLS = 512;
+    /** The most calls that one choice takes: a text of 1000 bytes, with what stands around it. */
+    private static final int MOST_AT_ONCE = 60;
     private static long seed;
 
     /** A number from 0 to n - 1. */
@@ -24,7 +29,7 @@ public final class RandomRunsTest {
     private final List<String> calls = new ArrayList<>();
 
     public static void main(String[] args) {
-        int runs = args.length > 0 ? Integer.parseInt(args[0]) : 1200;
+        int runs = args.length > 0 ? Integer.parseInt(args[0]) : RUNS;
         long begin = args.length > 1 ? Long.parseLong(args[1]) : 1;
         for (int run = 0; run < runs; run++) {
             seed = begin + run;
@@ -45,12 +50,12 @@ public final class RandomRunsTest {
         }
     }
 
-    /** Up to 512 calls on a new object: the setup, operations and questions. */
+    /** All 512 calls of a new object: the setup, operations and questions, and bytes of both texts at last. */
     private void run(int number) {
         if (pick(20) > 0) {
             load(setup(number % 10 == 0));
         }
-        while (calls.size() < 420) {
+        while (calls.size() <= MOST_CALLS - MOST_AT_ONCE) {
             int kind = pick(100);
             if (kind < 1) {
                 load(pick(2) == 0 ? broken() : setup(false));
@@ -62,6 +67,9 @@ public final class RandomRunsTest {
                 askTexts();
             }
         }
+        int left = MOST_CALLS - calls.size();
+        setupBytes(left / 3);
+        pictureBytes(MOST_CALLS - calls.size());
     }
 
     // ---- setup texts
@@ -126,7 +134,7 @@ public final class RandomRunsTest {
         for (int i = 0; i < text.length(); i++) {
             bytes[i] = (byte) text.charAt(i);
         }
-        due("truncate(all)", x.truncate(x.tapeLength()), m.truncate(m.tape.length()));
+        due("truncate(all)", x.truncate(m.tape.length()), m.truncate(m.tape.length()));
         for (int i = 0; i < many; i += 20) {
             int a = Check.four(bytes, i), b = Check.four(bytes, i + 4), c = Check.four(bytes, i + 8);
             int d = Check.four(bytes, i + 12), e = Check.four(bytes, i + 16);
@@ -320,22 +328,33 @@ public final class RandomRunsTest {
                 due(row("named", letters), x.named(letters), m.named(letters));
                 break;
             case 2:
-                String picture = m.picture();
-                due("pictureLength", x.pictureLength(), picture.length());
-                CHECK.due("picture", Check.picture(x), picture);
-                int i = pick(3) == 0 ? between(-1, picture.length() + 1) : pick(picture.length());
-                due(row("pictureByte", i), x.pictureByte(i), Model.byteOf(picture, i));
+                due("pictureLength", x.pictureLength(), m.picture().length());
+                pictureBytes(pick(20));
                 break;
             case 3:
-                String setup = m.setup();
-                due("setupLength", x.setupLength(), setup.length());
-                CHECK.due("setup", Check.setup(x), setup);
-                int j = pick(3) == 0 ? between(-1, setup.length() + 1) : pick(setup.length());
-                due(row("setupByte", j), x.setupByte(j), Model.byteOf(setup, j));
+                due("setupLength", x.setupLength(), m.setup().length());
+                setupBytes(pick(20));
                 break;
             default:
                 due("errorPosition", x.errorPosition(), m.error);
                 due("tapeLength", x.tapeLength(), m.tape.length());
+        }
+    }
+
+    /** So many bytes of the picture in a row, from anywhere in it or from its edges on. */
+    private void pictureBytes(int many) {
+        String picture = m.picture();
+        int first = between(-1, picture.length());
+        for (int i = first; i < first + many; i++) {
+            due(row("pictureByte", i), x.pictureByte(i), Model.byteOf(picture, i));
+        }
+    }
+
+    private void setupBytes(int many) {
+        String setup = m.setup();
+        int first = between(-1, setup.length());
+        for (int i = first; i < first + many; i++) {
+            due(row("setupByte", i), x.setupByte(i), Model.byteOf(setup, i));
         }
     }
 

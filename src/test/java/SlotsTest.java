@@ -6,7 +6,8 @@ public final class SlotsTest {
 
     public static void main(String[] args) {
         wrongArguments();
-        slots();
+        firstSlot();
+        secondSlot();
         slotsStay();
         eightAtMost();
         everyOperation();
@@ -26,12 +27,12 @@ public final class SlotsTest {
         CHECK.due("undo()", x.undo(), -1);
     }
 
-    private static void slots() {
+    /** Two labels kept in slot 0, and what some operations make of it in slot 1. */
+    private static LineDiagram twoSlots() {
         LineDiagram x = Check.of(TEXT);
         x.label(0, 0, 2);
         x.label(1, 0, 7);
         CHECK.due("keep(0)", x.keep(0), 2);
-        String kept = Check.picture(x);
         x.moveBend(0, 2, 9, 5);
         x.reverse(0);
         x.setSize(1, 9);
@@ -39,25 +40,39 @@ public final class SlotsTest {
         x.insert(1, 1, 4, 6);
         x.labelAll();
         CHECK.due("keep(1)", x.keep(1), x.value(6));
-        String later = Check.picture(x);
-        String laterSetup = Check.setup(x);
+        return x;
+    }
+
+    private static void firstSlot() {
+        LineDiagram x = Check.of(TEXT);
+        x.label(0, 0, 2);
+        x.label(1, 0, 7);
+        String kept = Check.picture(x);
+        x = twoSlots();
         CHECK.due("restore(0)", x.restore(0), 2);
         CHECK.due("picture", Check.picture(x), kept);
         CHECK.due("setup", Check.setup(x), TEXT);
         CHECK.due("position(0, 0)", x.position(0, 0), 2);
         CHECK.due("position(1, 0)", x.position(1, 0), 7);
-        x.unlabel(1, 0);
-        CHECK.due("restore(1)", x.restore(1), x.value(6));
-        CHECK.due("picture", Check.picture(x), later);
-        CHECK.due("setup", Check.setup(x), laterSetup);
-        CHECK.due("restore(0): the slot keeps it", x.restore(0), 2);
-        CHECK.due("undo of a restore", x.undo(), 7);
-        CHECK.due("picture", Check.picture(x), later);
         x.unlabel(0, 0);
         x.keep(0);
         x.restore(1);
         CHECK.due("restore(0): in place of what it had", x.restore(0), x.value(6));
         CHECK.due("position(0, 0)", x.position(0, 0), -2);
+    }
+
+    private static void secondSlot() {
+        LineDiagram x = twoSlots();
+        String later = Check.picture(x);
+        x.restore(0);
+        x.unlabel(1, 0);
+        CHECK.due("restore(1)", x.restore(1), x.value(6));
+        CHECK.due("picture", Check.picture(x), later);
+        CHECK.due("setup", Check.setup(x), "board 12 8 turn 2;line a size 2 stops 3 at 9 5 at 5 1 at 1 1;"
+            + "line b size 9 stops 5 at 0 6 at 4 6 at 9 6;");
+        CHECK.due("restore(0): the slot keeps it", x.restore(0), 2);
+        CHECK.due("undo of a restore", x.undo(), 7);
+        CHECK.due("picture", Check.picture(x), later);
     }
 
     private static void slotsStay() {
@@ -101,13 +116,13 @@ public final class SlotsTest {
 
     /** Each operation can be undone, and leaves behind what was there. */
     private static void everyOperation() {
-        LineDiagram x = Check.of(TEXT);
-        x.label(1, 0, 7);
-        x.label(0, 2, 7);
-        x.keep(0);
-        x.label(0, 1, 6);
-        String picture = Check.picture(x);
         for (int i = 0; i < 11; i++) {
+            LineDiagram x = Check.of(TEXT);
+            x.label(1, 0, 7);
+            x.label(0, 2, 7);
+            x.keep(0);
+            x.label(0, 1, 6);
+            String picture = Check.picture(x);
             int answer;
             switch (i) {
                 case 0: answer = x.moveBend(0, 2, 9, 5); break;

@@ -333,6 +333,41 @@ public final class EdgesOfTermsTest {
         }
     }
 
+    @Says(in = "Terms 3", words = "It is one row high and LONG columns wide")
+    private static void sizesOfLabels() {
+        for (int size = 1; size <= 10; size++) {
+            // a has its stations of LONG SIZE, SIZE + 1 and SIZE + 2 in the middle of a board without anything else
+            LineDiagram x = Check.of("board 40 40 turn 2;line a size " + size + " stops 3 at 20 19 at 20 21;");
+            for (int station = 0; station < 3; station++) {
+                due("label(0, " + station + ", 0)", x.label(0, station, 0), size + station);
+                due("cells of labels", x.value(8), size + station);
+                due("labelAt its last column", x.labelAt(20 + size + station, 19 + station), 64 * (19 + station) + 20);
+                due("labelAt behind it", x.labelAt(21 + size + station, 19 + station), -2);
+                due("labelAt above it", x.labelAt(21, 18 + station), -2);
+                due("labelAt below it", x.labelAt(21, 20 + station), -2);
+                x.unlabel(0, station);
+            }
+        }
+    }
+
+    @Says(in = "Terms 3", words = "0 right: from column x + 1 on, in row y; 1 left: up to column x - 1, in row y; 2 above right: from column x + 1 on, in row y - 1; "
+        + "3 below right: likewise in row y + 1; 4 above left: up to column x - 1, in row y - 1; 5 below left: likewise in row y + 1")
+    private static void besideThePlace() {
+        int[] rows = {19, 19, 18, 20, 18, 20};
+        for (int size = 1; size <= 10; size += 3) {
+            LineDiagram x = Check.of("board 40 40 turn 2;line a size " + size + " stops 2 at 20 19 at 20 30;");
+            for (int position = 0; position < 6; position++) {
+                int side = position == 0 || position == 2 || position == 3 ? 1 : -1;
+                due("label(0, 0, " + position + ")", x.label(0, 0, position), size);
+                due("labelAt above, at or below the place", x.labelAt(20, rows[position]), -2);
+                due("labelAt the column beside it", x.labelAt(20 + side, rows[position]), 64 * 19 + 20);
+                due("labelAt the farthest column", x.labelAt(20 + side * size, rows[position]), 64 * 19 + 20);
+                due("labelAt the column behind that", x.labelAt(20 + side * (size + 1), rows[position]), -2);
+                due("cells of labels", x.value(8), size);
+            }
+        }
+    }
+
     @Says(in = "Terms 3", words = "6 above: from column x - LONG / 2 (cut) on, in row y - 1; 7 below: likewise in row y + 1")
     private static void halfOfTheLong() {
         // the first columns of labels of 1 to 6 above column 5

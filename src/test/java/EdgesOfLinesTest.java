@@ -79,6 +79,13 @@ public final class EdgesOfLinesTest {
         due("two bows and one", Check.of(head + "line a" + bow + "line b" + bow + "line c" + falling).value(10), 3);
         due("two lines side by side", Check.of(head + "line a" + falling + "line b" + falling).value(11), 3);
         due("three lines side by side", Check.of(head + "line a" + falling + "line b" + falling + "line c" + falling).value(11), 9);
+        // eight lines that go from (5, 5) to the right, right and down, down, and left and down, and from (6, 6) to (5, 6)
+        StringBuilder eight = new StringBuilder(head);
+        for (char name = 'a'; name < 'i'; name++) {
+            eight.append("line ").append(name).append(" size 1 stops 2 at 6 5 at 5 5 at 6 6 at 5 6 at 5 5 at 4 6;");
+        }
+        due("eight lines side by side in all ways", Check.of(eight.toString()).value(11), 5 * 28);
+        due("eight lines that cross none", Check.of(eight.toString()).value(10), 0);
         String twice = head + "line a size 1 stops 2 at 1 1 at 4 1 at 4 4 at 1 4 at 1 1 at 4 1;";
         due("a line that goes over a step again", Check.of(twice).value(11), 0);
         due("it, and another line", Check.of(twice + "line b size 1 stops 2 at 0 1 at 3 1;").value(11), 2);

@@ -711,6 +711,34 @@ public final class EdgesOfOperationsTest {
         due("labelAll where none fits", Check.of("board 4 4 turn 2;line a size 10 stops 2 at 0 0 at 3 0;").labelAll(), 0);
     }
 
+    /** Eight upright lines of 20 stations, every 5 columns: as many labels as there can be, all right of their places. */
+    @Says(in = "Promise 15", words = "Returns how many labels come")
+    private static void labelAllOfAllThatCanBe() {
+        StringBuilder text = new StringBuilder("board 40 40 turn 2;");
+        for (int i = 0; i < 8; i++) {
+            text.append("line ").append((char) ('a' + i)).append(" size 1 stops 20 at ").append(5 * i).append(" 0 at ").append(5 * i).append(" 38;");
+        }
+        LineDiagram x = Check.of(text.toString());
+        due("couldLabel", x.couldLabel(), 160);
+        due("labelAll", x.labelAll(), 160);
+        due("labels", x.value(6), 160);
+        due("cells of labels", x.value(8), 8 * (7 * 1 + 7 * 2 + 6 * 3));
+        due("labelled()", x.labelled(), 1);
+        due("keep", x.keep(0), 160);
+        due("unlabel of the last place", x.unlabel(7, 19), 0);
+        due("unlabel of the first place", x.unlabel(0, 0), 0);
+        due("unlabel of one between", x.unlabel(3, 10), 0);
+        due("labels", x.value(6), 157);
+        due("labelAll", x.labelAll(), 3);
+        // a label of 5 columns comes upon the next line
+        due("setSize(0, 3)", x.setSize(0, 3), 6);
+        due("undo()", x.undo(), 5);
+        due("labels", x.value(6), 160);
+        due("setSize(7, 10)", x.setSize(7, 10), 20);
+        due("restore", x.restore(0), 160);
+        due("position of the last place", x.position(7, 19), 0);
+    }
+
     @Says(in = "Promise 15", words = "as far as that can be")
     private static void labelAllAsFarAsCanBe() {
         // (1, 0) and (3, 0), of LONG 11 and 10, have no room

@@ -191,6 +191,10 @@ public final class EdgesOfLabelsTest {
         x.unlabel(0, 0);
         x.label(1, 0, 1);
         due("stuck() counts (0, 0) when its room is taken", x.stuck(), 4);
+        // b takes all the room of the last cell
+        String last = "board 40 40 turn 2;line a size 1 stops 2 at 39 39 at 30 39;";
+        due("stuck() of the last cell with room", Check.of(last).stuck(), 0);
+        due("stuck() of the last cell without room", Check.of(last + "line b size 1 stops 2 at 39 38 at 30 38;").stuck(), 1);
     }
 
     // ---- promise 38

@@ -263,6 +263,13 @@ public final class EdgesOfLinesTest {
         for (int i = 0; i < 8; i++) {
             due("station(0, " + i + ", 3) of eight", x.station(0, i, 3), i < 5 ? 0 : 1);
         }
+        // two stations, at the ends of four runs; then a third one in the second run
+        x = Check.of("board 12 8 turn 3;line a size 1 stops 2 at 0 0 at 2 0 at 4 2 at 4 4 at 3 5;");
+        due("station(0, 0, 3) of four runs", x.station(0, 0, 3), 0);
+        due("station(0, 1, 3) of four runs", x.station(0, 1, 3), 3);
+        x.setStops(0, 3);
+        due("station(0, 1, 3) in the second run", x.station(0, 1, 3), 1);
+        due("station(0, 2, 3) of four runs", x.station(0, 2, 3), 3);
         // the first station has the way behind it, the next one, a step on, that between both
         x = Check.of("board 9 9 turn 3;line a size 1 stops 4 at 4 4 at 3 3 at 4 3 at 3 4;");
         int[] each = {5, 5, 0, 3};

@@ -750,6 +750,14 @@ public final class EdgesOfOperationsTest {
         due("position of (3, 0)", x.position(1, 0), -2);
         due("stuck()", x.stuck(), 2);
         due("labelAll again", x.labelAll(), 0);
+        // the last cell has room above left alone, and none when b runs there
+        String last = "board 40 40 turn 2;line a size 1 stops 2 at 39 39 at 30 39;";
+        x = Check.of(last);
+        due("labelAll with the last cell", x.labelAll(), 2);
+        due("position of the last cell", x.position(0, 0), 4);
+        x = Check.of(last + "line b size 1 stops 2 at 39 38 at 30 38;");
+        due("labelAll without room for the last cell", x.labelAll(), 3);
+        due("position of the last cell", x.position(0, 0), -2);
     }
 
     // ---- promise 16

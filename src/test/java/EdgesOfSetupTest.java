@@ -440,6 +440,11 @@ public final class EdgesOfSetupTest {
         due("tapeLength()", x.tapeLength(), 0);
         Check.write(x, HEAD);
         due("load() of what came behind", x.load(), 0);
+        // a shorter text, with white space ahead, behind one that failed at its end
+        Check.write(x, HEAD + LINE + "!");
+        due("load() that fails", x.load(), -1);
+        Check.write(x, " \n board 4 4 turn 0;");
+        due("load() of a shorter text", x.load(), 0);
     }
 
     @Says(in = "Promise 4", words = "On success everything is replaced, the slots are empty, and nothing can be undone")
@@ -483,6 +488,65 @@ public final class EdgesOfSetupTest {
             due("undo()", x.undo(), 1);
             due("undo()", x.undo(), 0);
             due("labels", x.value(6), 0);
+        }
+    }
+
+    /** What an object with lines a and b answers, of three and of two stations. */
+    private static String answers(LineDiagram x) {
+        StringBuilder all = new StringBuilder();
+        for (int what = 0; what < 12; what++) {
+            all.append(" value ").append(x.value(what));
+        }
+        for (int line = 0; line < 2; line++) {
+            all.append("\nuneven ").append(x.uneven(line)).append(" meanGap ").append(x.meanGap(line));
+            for (int what = 0; what < 9; what++) {
+                all.append(" line ").append(x.line(line, what));
+            }
+            for (int point = 0; point < 3; point++) {
+                all.append(" point ").append(x.point(line, point, true)).append(' ').append(x.point(line, point, false));
+                all.append(" turn ").append(x.turn(line, point));
+            }
+            for (int station = 0; station < 3; station++) {
+                for (int what = 0; what < 6; what++) {
+                    all.append(" station ").append(x.station(line, station, what));
+                }
+                all.append(" position ").append(x.position(line, station)).append(" free ").append(x.free(line, station));
+            }
+        }
+        all.append("\ncrookedest ").append(x.crookedest()).append(" nearest ").append(x.nearest(0, 7));
+        for (int what = 0; what < 5; what++) {
+            all.append(" both ").append(x.both(0, 1, what));
+        }
+        all.append(" rides ").append(x.rides(0, 0, 1, 1)).append(" changes ").append(x.changes(0, 0, 1, 1));
+        all.append(" stuck ").append(x.stuck()).append(" labelled ").append(x.labelled());
+        for (String name : new String[] {"a", "b", "c", "z"}) {
+            all.append(" named ").append(x.named(Check.letters(name)));
+        }
+        // what would be comes last, as an object that tries it out could mend by that what it had lost
+        all.append(" best ").append(x.bestMove(0, 2)).append(" could ").append(x.couldLabel());
+        return all.toString();
+    }
+
+    @Says(in = "Promise 4", words = "On an error everything but the tape and the error position stays")
+    private static void answersStay() {
+        String lines = "line a size 2 stops 3 at 1 1 at 4 1 at 6 3;line b size 1 stops 2 at 2 7 at 8 1;";
+        String other = "board 40 40 turn 3;line z size 9 stops 2 at 0 0 at 5 5 at 0 5;line";
+        for (String text : new String[] {"", other, HEAD + "line", HEAD + LINE.replace(" a ", " c ") + "!", eightLines() + ";"}) {
+            LineDiagram x = Check.of("board 9 8 turn 1;" + lines);
+            String before = answers(x);
+            Check.write(x, text);
+            due("load(" + text + ")", x.load(), -1);
+            CHECK.due("answers", answers(x), before);
+            x = Check.of("board 9 8 turn 1;" + lines);
+            x.label(0, 0, 7);
+            Check.write(x, text);
+            due("load(" + text + ")", x.load(), -1);
+            due("insert that turns by 3 eighths", x.insert(0, 3, 6, 1), -3);
+            due("moveBend that turns by 3 eighths", x.moveBend(0, 2, 2, 3), -3);
+            due("ifMoved that turns by 3 eighths", x.ifMoved(0, 2, 2, 3, 0), -3);
+            due("moveBend off the board", x.moveBend(0, 0, 1, 8), -1);
+            due("bestMove", x.bestMove(0, 0), 0);
+            due("undo()", x.undo(), 0);
         }
     }
 
